@@ -771,6 +771,12 @@ public final class PromisesTest {
         Check.due(1, () -> b.defaultMonth(0));
         Check.due(1, () -> b.passMonths(1));
         Check.due(1, () -> b.defaultedLeases());
+        b.giveCoins(0, 5);
+        b.setRent(0, 1);
+        b.switchFountain(0);
+        int coins = b.coinsOf(0);
+        b.lease(0, 0, 12);
+        Check.due(coins, () -> b.defaultMonth(0));
         Check.due(NO_INDEX, () -> b.defaultMonth(1));
         Check.due(NO_INDEX, () -> b.defaultMonth(-1));
     }
@@ -1019,6 +1025,7 @@ public final class PromisesTest {
 
     private static void isConsistent() {
         BenchBroker b = threeEnds();
+        b.setRent(2, 1);
         Check.due(true, () -> b.isConsistent());
         int before = b.incomeWithin(12);
         Check.due(true, () -> b.isConsistent());
@@ -1206,17 +1213,19 @@ public final class PromisesTest {
         Check.due(NO_ELEMENT, () -> b.syntaxErrorOffset());
         String[] texts = {"", "q", " pass 1", "b", "bench", "bench 0", "bench 0 0 ", "bench 0 0 123", "l", "le", "li",
             "lx", "lease 0 0", "end 12", "tenant 5;", "tenant 5;;", "fountain 0 0 12", "pass 1 ", "pass 1; pass 1",
-            "pass  1", "pass x", "pass 1x", "bench 00 0 5", "Pass 1", "switch 0;switch", "limit 2;tenant 3;lint"};
+            "pass  1", "pass x", "pass 1x", "bench 00 0 5", "Pass 1", "switch 0;switch", "limit 2;tenant 3;lint",
+            "switch 00", "fountain 0 0 1 ", "give 0", "renew 1 ", "limit 007", "end 0x", "pass 1,pass 1"};
         int[] offsets = {0, 0, 0, 1, 5, 7, 10, 12, 1, 2, 2,
             1, 9, 5, 9, 9, 14, 6, 7,
-            5, 5, 6, 7, 0, 15, 19};
+            5, 5, 6, 7, 0, 15, 19,
+            8, 14, 6, 8, 8, 5, 6};
         for (int i = 0; i < texts.length; i++) {
             String text = texts[i];
             Check.due(WRONG_NUMBER, () -> Check.execute(b, text));
             Check.due(offsets[i], () -> b.syntaxErrorOffset());
         }
         Check.execute(b, "pass 1");
-        Check.due(19, () -> b.syntaxErrorOffset());
+        Check.due(6, () -> b.syntaxErrorOffset());
         String full = "pass 11;pass 11;pass 11;pass 11;pass 11;pass 11;pass 11;tena";
         Check.due(WRONG_NUMBER, () -> Check.execute(b, full));
         Check.due(60, () -> b.syntaxErrorOffset());
