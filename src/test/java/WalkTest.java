@@ -1,8 +1,11 @@
 import java.lang.reflect.InvocationTargetException;
 import java.lang.reflect.Method;
+import java.lang.reflect.Modifier;
 import java.util.ArrayList;
 import java.util.Comparator;
+import java.util.HashMap;
 import java.util.List;
+import java.util.Map;
 import java.util.Objects;
 
 /** Long walks through all calls, each answer compared with the model's. The steps come from a counted sequence. */
@@ -13,22 +16,32 @@ public final class WalkTest {
     private static final String[] CHANGES = {"addBench", "setRent", "addFountain", "setLoudness", "switchFountain",
         "setNoiseLimit", "addTenant", "giveCoins", "lease", "lease", "lease", "endLease", "renew", "passMonths",
         "passMonths", "undo", "saveSnapshot", "restoreSnapshot"};
-    private static final String[] WORDS = {"bench ", "fountain ", "tenant ", "give ", "lease ", "end ", "renew ",
-        "switch ", "limit ", "pass "};
-    private static final int[] DIGITS = {2, 3, 0, 1, 2, 1, 1, 1, 0, 0};
-    private static final boolean[] NUMBER = {true, false, true, true, true, false, true, false, true, true};
-    private static final int[] EDGES = {Integer.MIN_VALUE, -1, 0, 6, 10, 12, 13, 20, 21, 99, 100, Integer.MAX_VALUE};
+    // What the arguments are: b bench, t tenant, f fountain, c row or column, r rent, l loudness, p coins,
+    // m months, n some number, a character.
+    private static final Map<String, String> KINDS = kinds("addBench ccr", "setRent br", "addFountain ccl",
+        "setLoudness fl", "switchFountain f", "setNoiseLimit n", "addTenant p", "giveCoins tp", "lease tbm",
+        "endLease b", "renew bm", "passMonths m", "rowOf b", "columnOf b", "baseRent b", "rentOf b", "loudnessOf f",
+        "isRunning f", "noiseAt cc", "noiseBySpreading cc", "isQuiet b", "coinsOf t", "defaultsOf t", "benchOf t",
+        "canLease tb", "cheapestFor t", "isLet b", "tenantOf b", "depositOf b", "monthsLeft b", "defaultMonth b",
+        "incomeWithin m", "incomeByLeases m", "benchByRent b", "tenantByCoins t", "writeBench b", "writeRow c",
+        "outputAt n", "appendInput a");
+    // A capital has one digit in a command, whatever its method accepts.
+    private static final String[] COMMANDS = {"bench CCr", "fountain CCL", "tenant p", "give Tp", "lease TBm", "end B",
+        "renew Bm", "switch F", "limit n", "pass m"};
+    private static final int[] EDGES = {Integer.MIN_VALUE, -1, 0, 6, 9, 10, 12, 13, 20, 21, 99, 100, Integer.MAX_VALUE};
     private static final List<Method> FACE = face();
 
-    // A walk that seldom goes back gets to banned tenants and full parks.
+    // A walk that seldom goes back gets to full parks, and one with two tenants alone to banned ones.
     private final boolean seldomBack;
+    private final boolean twoTenants;
     private long seed;
-    private BenchBroker broker = new BenchBroker();
-    private Model model = new Model();
+    private final BenchBroker broker = new BenchBroker();
+    private final Model model = new Model();
 
-    private WalkTest(long seed) {
-        this.seed = seed * 7919 + 17;
-        this.seldomBack = seed % 2 == 1;
+    private WalkTest(int number) {
+        seed = number * 7919L + 17;
+        seldomBack = number % 2 == 1;
+        twoTenants = number % 4 == 3;
     }
 
     public static void main(String[] args) {
@@ -39,15 +52,27 @@ public final class WalkTest {
         Check.finish();
     }
 
+    private static Map<String, String> kinds(String... lines) {
+        Map<String, String> kinds = new HashMap<>();
+        for (String line : lines) {
+            kinds.put(line.substring(0, line.indexOf(' ')), line.substring(line.indexOf(' ') + 1));
+        }
+        return kinds;
+    }
+
     private static List<Method> face() {
         List<Method> methods = new ArrayList<>();
         for (Method method : BenchBroker.class.getDeclaredMethods()) {
-            if (java.lang.reflect.Modifier.isPublic(method.getModifiers())) {
+            if (Modifier.isPublic(method.getModifiers())) {
                 methods.add(method);
             }
         }
         methods.sort(Comparator.comparing(Method::getName));
         return methods;
+    }
+
+    private static Method methodNamed(String name) {
+        return FACE.stream().filter(m -> m.getName().equals(name)).findFirst().orElseThrow();
     }
 
     private int below(int bound) {
@@ -58,11 +83,11 @@ public final class WalkTest {
     private void walk() {
         int calls = 0;
         while (calls < CALLS) {
-            int kind = below(10);
-            if (kind < 5) {
+            int kind = below(40);
+            if (kind < 24) {
                 compareOrSkip(methodNamed(CHANGES[below(CHANGES.length)]));
                 calls++;
-            } else if (kind < 9 || calls + LONGEST_TEXT + 5 > CALLS) {
+            } else if (kind < 39 || calls + LONGEST_TEXT + 5 > CALLS) {
                 compareOrSkip(FACE.get(below(FACE.size())));
                 calls++;
             } else {
@@ -71,51 +96,51 @@ public final class WalkTest {
         }
     }
 
-    private static Method methodNamed(String name) {
-        return FACE.stream().filter(m -> m.getName().equals(name)).findFirst().orElseThrow();
-    }
-
-    /** The next argument, mostly one that its method accepts. */
-    private int argument(Method method, int position) {
-        if (below(25) == 0) {
-            return EDGES[below(EDGES.length)];
-        }
-        String name = method.getName();
-        boolean last = position == method.getParameterCount() - 1;
-        if (name.equals("addTenant") || name.equals("giveCoins") && last) {
-            return 1 + below(below(3) == 0 ? 98 : 12);
-        }
-        if (name.endsWith("Months") || name.startsWith("income")) {
-            return 1 + below(below(2) == 0 ? 12 : 2);
-        }
-        if (last && (name.equals("lease") || name.equals("renew"))) {
-            return 1 + below(12);
-        }
-        if (last && (name.equals("addBench") || name.equals("setRent"))) {
-            return 1 + below(20);
-        }
-        if (last && name.endsWith("ountain") || last && name.equals("setLoudness")) {
-            return name.equals("switchFountain") ? below(4) : 1 + below(9);
-        }
-        return name.equals("setNoiseLimit") || name.equals("outputAt") ? below(20) : below(6);
-    }
-
     private void compareOrSkip(Method method) {
-        boolean goesBack = method.getName().equals("undo") || method.getName().equals("restoreSnapshot");
-        if (!goesBack || !seldomBack || below(12) == 0) {
-            compare(method);
+        String name = method.getName();
+        boolean goesBack = name.equals("undo") || name.equals("restoreSnapshot");
+        boolean full = twoTenants && name.equals("addTenant") && broker.tenantCount() == 2;
+        if (full || goesBack && seldomBack && below(12) > 0) {
+            return;
         }
-    }
-
-    private void compare(Method method) {
         int[] n = new int[3];
         for (int i = 0; i < method.getParameterCount(); i++) {
-            n[i] = argument(method, i);
-        }
-        if (method.getName().equals("appendInput")) {
-            n[0] = 28 + below(103);
+            n[i] = argument(KINDS.get(name).charAt(i));
         }
         compare(method, n);
+    }
+
+    /** An argument that its method mostly accepts. */
+    private int argument(char kind) {
+        if (below(40) == 0) {
+            return EDGES[below(EDGES.length)];
+        }
+        switch (kind) {
+            case 'b':
+                return index(broker.benchCount());
+            case 't':
+                return index(broker.tenantCount());
+            case 'f':
+                return index(broker.fountainCount());
+            case 'c':
+                return below(6);
+            case 'r':
+                return 1 + below(20);
+            case 'l':
+                return 1 + below(9);
+            case 'p':
+                return 1 + below(below(3) == 0 ? 98 : 25);
+            case 'm':
+                return 1 + below(below(2) == 0 ? 12 : 2);
+            case 'n':
+                return below(20);
+            default:
+                return 28 + below(103);
+        }
+    }
+
+    private int index(int count) {
+        return count == 0 || below(10) == 0 ? below(count + 2) : below(count);
     }
 
     private void compare(Method method, int[] n) {
@@ -149,9 +174,8 @@ public final class WalkTest {
         for (int i = 0; i < text.length(); i++) {
             compare(append, new int[] {text.charAt(i), 0, 0});
         }
-        compare(methodNamed("execute"), new int[3]);
-        String[] after = {"syntaxErrorOffset", "rejectionReason", "rejectionDetail", "causeReason"};
-        for (String name : after) {
+        for (String name : new String[] {"execute", "syntaxErrorOffset", "rejectionReason", "rejectionDetail",
+            "causeReason"}) {
             compare(methodNamed(name), new int[3]);
         }
         return text.length() + 5;
@@ -163,20 +187,27 @@ public final class WalkTest {
         for (int i = 0; i < count; i++) {
             appendCommand(text.append(i == 0 ? "" : ";"));
         }
-        if (below(3) == 0) {
+        if (below(4) == 0) {
             spoil(text);
         }
-        return text.length() > LONGEST_TEXT ? text.substring(0, LONGEST_TEXT) : text.toString();
+        // Most texts fit; a long one shows what a full input does.
+        int longest = below(5) == 0 ? LONGEST_TEXT : 60;
+        return text.length() <= longest ? text.toString() : text.substring(0, lastWhole(text, longest));
+    }
+
+    private int lastWhole(StringBuilder text, int longest) {
+        int semicolon = text.lastIndexOf(";", longest);
+        return semicolon < 0 || below(4) == 0 ? longest : semicolon;
     }
 
     private void appendCommand(StringBuilder text) {
-        int word = below(WORDS.length);
-        text.append(WORDS[word]);
-        for (int i = 0; i < DIGITS[word]; i++) {
-            text.append(i == 0 ? "" : " ").append(below(below(4) == 0 ? 10 : 4));
-        }
-        if (NUMBER[word]) {
-            text.append(DIGITS[word] == 0 ? "" : " ").append(below(3) == 0 ? below(100) : below(13));
+        String command = COMMANDS[below(COMMANDS.length)];
+        int blank = command.indexOf(' ');
+        text.append(command, 0, blank);
+        for (int i = blank + 1; i < command.length(); i++) {
+            char kind = command.charAt(i);
+            int number = argument(Character.toLowerCase(kind));
+            text.append(' ').append(Math.floorMod(number, Character.isUpperCase(kind) ? 10 : 100));
         }
     }
 
@@ -185,10 +216,17 @@ public final class WalkTest {
         char sign = signs.charAt(below(signs.length()));
         int at = below(text.length());
         switch (below(4)) {
-            case 0 -> text.setCharAt(at, sign);
-            case 1 -> text.insert(at, sign);
-            case 2 -> text.deleteCharAt(at);
-            default -> text.setLength(at);
+            case 0:
+                text.setCharAt(at, sign);
+                break;
+            case 1:
+                text.insert(at, sign);
+                break;
+            case 2:
+                text.deleteCharAt(at);
+                break;
+            default:
+                text.setLength(at);
         }
     }
 }
