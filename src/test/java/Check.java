@@ -60,7 +60,8 @@ final class Check {
 
     private static String testLine() {
         for (StackTraceElement frame : new Throwable().getStackTrace()) {
-            if (!frame.getClassName().startsWith("Check")) {
+            String name = frame.getClassName();
+            if (!name.startsWith("Check") && !name.startsWith("Script") && !name.startsWith("java.")) {
                 return frame.getFileName() + ":" + frame.getLineNumber();
             }
         }

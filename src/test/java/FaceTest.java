@@ -15,8 +15,12 @@ import java.util.stream.Stream;
 public final class FaceTest {
     private static final Path DOCUMENT = Path.of("..", "shared", "DOC.md");
     private static final Path SOURCE = Path.of("src", "main", "java", "BenchBroker.java");
-    private static final String[] FORBIDDEN = {"->", "::", "catch", "finally", "synchronized", "assert", "package ",
-        "instanceof", "hashCode", "toString", "Exact(", "float f", "@", "import java.io", "import java.time"};
+    // What LANGUAGE.md rules out, as far as a word can show it.
+    private static final String[] FORBIDDEN = {"::", "finally", "synchronized", "assert ", "package ", "hashCode",
+        "getMessage", "Exact(", "static {", "Thread", "Random", "System.nanoTime", "System.currentTimeMillis",
+        "System.out", "extends Exception", "extends RuntimeException", "NaN"};
+    private static final Set<String> LIBRARY = Set.of("import java.util.Arrays;", "import java.util.ArrayList;",
+        "import java.util.List;", "import java.util.Iterator;", "import java.util.NoSuchElementException;");
 
     public static void main(String[] args) {
         Check.test("the face", FaceTest::face);
@@ -130,7 +134,8 @@ public final class FaceTest {
             }
         }
         Set<String> imports = text.lines().filter(l -> l.startsWith("import ")).collect(Collectors.toSet());
-        Check.due(Set.of("import java.util.Arrays;", "import java.util.NoSuchElementException;"), () -> imports);
+        Check.due(true, () -> LIBRARY.containsAll(imports));
+        Check.due(true, () -> code.lines().filter(l -> l.contains("->")).allMatch(l -> l.matches(" *(case|default).*")));
         Check.due(true, () -> text.chars().allMatch(c -> c < 128));
         longMethods(text);
     }

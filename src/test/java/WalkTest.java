@@ -99,7 +99,7 @@ public final class WalkTest {
     private void compareOrSkip(Method method) {
         String name = method.getName();
         boolean goesBack = name.equals("undo") || name.equals("restoreSnapshot");
-        boolean full = twoTenants && name.equals("addTenant") && broker.tenantCount() == 2;
+        boolean full = twoTenants && name.equals("addTenant") && count("tenantCount") == 2;
         if (full || goesBack && seldomBack && below(12) > 0) {
             return;
         }
@@ -117,11 +117,11 @@ public final class WalkTest {
         }
         switch (kind) {
             case 'b':
-                return index(broker.benchCount());
+                return index(count("benchCount"));
             case 't':
-                return index(broker.tenantCount());
+                return index(count("tenantCount"));
             case 'f':
-                return index(broker.fountainCount());
+                return index(count("fountainCount"));
             case 'c':
                 return below(6);
             case 'r':
@@ -137,6 +137,11 @@ public final class WalkTest {
             default:
                 return 28 + below(103);
         }
+    }
+
+    /** The model is asked, as the broker is called 512 times at most. */
+    private int count(String name) {
+        return (Integer) model.call(name, 0, 0, 0);
     }
 
     private int index(int count) {
