@@ -36,7 +36,7 @@ public final class BenchBroker {
     private static final int NONE = -1;
 
     private final Books books = new Books();
-    // Months and commands are tried here first, so that a failing call leaves the books alone.
+    // Every change is tried here first, so that a failing call leaves the books alone.
     private final Books trial = new Books();
     private final History history = new History();
     private final Books snapshot = new Books();
